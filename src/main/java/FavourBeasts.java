@@ -17,6 +17,7 @@ public final class FavourBeasts {
     private static final int MOST_GROWTH = 9;
     private static final int MOST_COOL = 9;
     private static final int MOST_EATEN = 20;
+    private static final int MOST_RATE = 9;
     private static final int MOST_PRICE = 999;
     private static final int LAST_DAY = 400;
     private static final int MOST_AHEAD = 99;
@@ -604,8 +605,7 @@ public final class FavourBeasts {
         }
 
         private void startToken() {
-            int at = Math.max(place, 0);
-            for (; at < length && at < TAPE_BYTES && bytes[at] == ' '; at++) {
+            for (int at = place; at >= 0 && at < length && at < TAPE_BYTES && bytes[at] == ' '; at++) {
                 place = at + 1;
             }
             tokenPlace = place;
@@ -755,71 +755,56 @@ public final class FavourBeasts {
 
         private boolean readFolk(Tape in) {
             int at = folks;
-            if (at < 0 || at >= MOST_FOLK) {
+            if (at >= MOST_FOLK) {
                 return in.fail(TOO_MANY);
             }
-            grass[at] = in.number(0, MOST_GRASS);
-            if (grass[at] == NONE) {
-                return false;
-            }
-            growth[at] = in.number(0, MOST_GROWTH);
-            if (growth[at] == NONE) {
-                return false;
-            }
-            folks = at + 1;
-            return in.expects(';');
+            folks++;
+            return readInto(in, grass, at, 0, MOST_GRASS)
+                    && readInto(in, growth, at, 0, MOST_GROWTH)
+                    && in.expects(';');
         }
 
         private boolean readBeast(Tape in) {
             int at = beasts;
-            if (at < 0 || at >= MOST_BEASTS) {
+            if (at >= MOST_BEASTS) {
                 return in.fail(TOO_MANY);
             }
-            doer[at] = in.number(0, folks - 1);
-            if (doer[at] == NONE) {
-                return false;
-            }
-            receiver[at] = in.number(0, folks - 1);
-            if (receiver[at] == NONE) {
-                return false;
-            }
-            if (receiver[at] == doer[at]) {
-                return in.fail(NONE_SUCH);
-            }
-            sort[at] = in.number(0, KINDS - 1);
-            if (sort[at] == NONE) {
-                return false;
-            }
-            weight[at] = in.number(1, MOST_WEIGHT);
-            if (weight[at] == NONE) {
-                return false;
-            }
-            beasts = at + 1;
-            return in.expects(';');
+            beasts++;
+            return readInto(in, doer, at, 0, folks - 1)
+                    && readInto(in, receiver, at, 0, folks - 1)
+                    && areUnlike(in, doer, receiver, at)
+                    && readInto(in, sort, at, 0, KINDS - 1)
+                    && readInto(in, weight, at, 1, MOST_WEIGHT)
+                    && in.expects(';');
         }
 
         private boolean readFair(Tape in) {
             int at = fairs;
-            if (at < 0 || at >= MOST_FAIRS) {
+            if (at >= MOST_FAIRS) {
                 return in.fail(TOO_MANY);
             }
-            given[at] = in.number(0, KINDS - 1);
-            if (given[at] == NONE) {
+            fairs++;
+            return readInto(in, given, at, 0, KINDS - 1)
+                    && readInto(in, gotten, at, 0, KINDS - 1)
+                    && areUnlike(in, given, gotten, at)
+                    && readInto(in, rate, at, 1, MOST_RATE)
+                    && in.expects(';');
+        }
+
+        private static boolean readInto(Tape in, int[] row, int at, int least, int most) {
+            int number = in.number(least, most);
+            if (number == NONE || at < 0 || at >= row.length) {
                 return false;
             }
-            gotten[at] = in.number(0, KINDS - 1);
-            if (gotten[at] == NONE) {
-                return false;
-            }
-            if (gotten[at] == given[at]) {
+            row[at] = number;
+            return true;
+        }
+
+        private static boolean areUnlike(Tape in, int[] one, int[] other, int at) {
+            if (at < 0 || at >= one.length || at >= other.length || one[at] == other[at]) {
                 return in.fail(NONE_SUCH);
             }
-            rate[at] = in.number(1, 9);
-            if (rate[at] == NONE) {
-                return false;
-            }
-            fairs = at + 1;
-            return in.expects(';');
+            return true;
         }
 
         boolean hasFolk(int number) {
@@ -1675,33 +1660,29 @@ public final class FavourBeasts {
         }
 
         int firstHeaviest() {
-            int best = NONE;
-            for (int beast = 0; beast < MOST_BEASTS; beast++) {
-                if (weight[beast] > 0 && (best == NONE || weight[beast] > weight[best])) {
-                    best = beast;
-                }
-            }
-            return best;
+            return firstBy(weight, 1);
         }
 
         int firstLightest() {
-            int best = NONE;
-            for (int beast = 0; beast < MOST_BEASTS; beast++) {
-                if (weight[beast] > 0 && (best == NONE || weight[beast] < weight[best])) {
-                    best = beast;
-                }
-            }
-            return best;
+            return firstBy(weight, -1);
         }
 
         int firstOldest() {
-            int best = NONE;
-            for (int beast = 0; beast < MOST_BEASTS; beast++) {
-                if (weight[beast] > 0 && (best == NONE || days[beast] > days[best])) {
-                    best = beast;
+            return firstBy(days, 1);
+        }
+
+        /** The first of the beasts that are there with the most of this, or, by sign -1, the least. */
+        private int firstBy(int[] row, int sign) {
+            int first = NONE;
+            int most = 0;
+            for (int beast = 0; beast < MOST_BEASTS && beast < row.length; beast++) {
+                int much = sign * row[beast];
+                if (weight[beast] > 0 && (first == NONE || much > most)) {
+                    first = beast;
+                    most = much;
                 }
             }
-            return best;
+            return first;
         }
 
         /** What these folk get, if each gets what is missing to it, but no more than the bound. */
