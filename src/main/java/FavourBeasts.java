@@ -1471,7 +1471,9 @@ public final class FavourBeasts {
         void passDay() {
             reckonAppetites();
             for (int slot = 0; slot < SLOTS; slot++) {
-                graze(slot);
+                if (weight[slot] > 0) {
+                    graze(slot);
+                }
             }
             for (int folk = 0; folk < MOST_FOLK; folk++) {
                 grass[folk] = Math.min(MOST_GRASS, grass[folk] + told.growth[folk]);
@@ -1488,7 +1490,7 @@ public final class FavourBeasts {
                 }
             }
             for (int slot = 0; slot < SLOTS; slot++) {
-                appetite[slot] = appetiteOf(slot);
+                appetite[slot] = weight[slot] > 0 ? appetiteOf(slot) : 0;
             }
         }
 
@@ -1508,7 +1510,10 @@ public final class FavourBeasts {
         }
 
         private void graze(int slot) {
-            int at = pastureOf(slot);
+            if (slot < 0 || slot >= SLOTS) {
+                return;
+            }
+            int at = stand[slot];
             if (at < 0 || at >= MOST_FOLK) {
                 return;
             }

@@ -55,6 +55,12 @@ public final class FaultTest {
             fol 0 0;| -9 | 0
             folks 0 0;| -9 | 0
             folkfolk 0 0;| -9 | 0
+            folka 0 0;| -9 | 0
+            folkz 0 0;| -9 | 0
+            folk` 0 0;| -9 | 4
+            folk{ 0 0;| -9 | 4
+            folk / 0;| -9 | 5
+            folk : 0;| -9 | 5
               folks 0 0;| -9 | 2
             fo lk 0 0;| -9 | 0
             7 folk 0 0;| -9 | 0

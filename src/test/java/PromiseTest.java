@@ -458,6 +458,28 @@ public final class PromiseTest {
             beast(0, 3) = 2
             beast(0, 6) = 2 // the law is not undone
             told(9) = 1
+            work 'kill 0;kill 0;' = 1
+            told(10) = 1
+            undo() = 0
+            told(10) = 0
+            """);
+        promise(8, """
+            hills 'folk 9 0;folk 0 0;beast 0 1 0 9;beast 1 0 0 1;beast 1 0 0 9;' = 3
+            work 'day;day;' = 2
+            beast(0, 5) = 2
+            told(8) = 1
+            beast(2, 3) = 7
+            work 'drive 0 1;again 7[day;];' = 8
+            beast(0, 5) = 9
+            told(8) = 2
+            undo() = 1
+            beast(0, 4) = 0
+            beast(0, 5) = 2
+            beast(2, 5) = 2
+            beast(2, 3) = 7
+            told(8) = 1
+            told(3) = 2
+            folk(0, 0) = 7
             """);
         promise(39, """
             HILLS
@@ -493,6 +515,26 @@ public final class PromiseTest {
             told(4) = 15
             count(2) = 0
             restore() = -1
+            """);
+        // An image keeps what its works can be undone to, whatever was undone and done since.
+        promise(39, """
+            HILLS
+            work 'day;' = 1
+            work 'ask 0;' = 1
+            image() = 1
+            undo() = 1
+            undo() = 0
+            work 'kill 3;' = 1
+            work 'kill 2;' = 1
+            restore() = 0
+            count(2) = 2
+            told(4) = 14
+            undo() = 1
+            told(4) = 15
+            told(11) = 0
+            told(3) = 1
+            undo() = 0
+            told(3) = 0
             """);
         promise(40, """
             restore() = -1
@@ -872,6 +914,17 @@ public final class PromiseTest {
             book '3 6;' = 1 // on day 1
             unseen(0, 0) = 12
             """);
+        promise(20, """
+            hills 'folk 90 0;folk 0 0;' = 0
+            law 'least[1, age / 11] * kind' = 1
+            book '12 90;' = 1
+            unseen(0, 0) = 30
+            book '11 90;12 86;' = 2
+            unseen(0, 0) = 30
+            unseen(0, 1) = 401
+            work 'again 9[day;];' = 9 // a line counts from now on, not from day 0
+            unseen(0, 0) = 30
+            """);
         promise(21, """
             HILLS
             look(3, 0) = NSEE
@@ -896,6 +949,15 @@ public final class PromiseTest {
             look(0, 0) = 1
             look(0, 1) = 30
             told(3) = 0
+            hills 'folk 99 0;folk 0 0;' = 0
+            law '0' = 1
+            look(0, 0) = 1
+            look(0, 1) = 180
+            law 'least[1, age / 11] * kind' = 1
+            look(0, 0) = 12
+            look(0, 1) = 30
+            look(1, 0) = 1
+            look(1, 1) = 180
             """);
     }
 
@@ -1034,6 +1096,8 @@ public final class PromiseTest {
             share(0, 15, 27) = 9
             share(0, 1, 8) = 8
             share(0, 15, 2) = 0
+            share(0, 15, 0) = 0
+            share(0, 15, 3) = 1
             share(1, 2, 98) = 98
             share(1, 10, 148) = 99
             share(1, 10, 147) = 98
@@ -1171,6 +1235,11 @@ public final class PromiseTest {
             driven() = 8
             work 'do 0;' = 1
             driven() = 8
+            hills 'folk 0 0;folk 0 0;beast 0 1 0 1;' = 1
+            work 'drive 0 1;' = 1
+            driven() = 1
+            folk(1, 2) = 1
+            heaviest(1) = 1
             """);
         promise(33, """
             HILLS
@@ -1261,6 +1330,10 @@ public final class PromiseTest {
             span(1, 1, 1, 0, 0, 0) = 62
             span(-1, 3, 1, 0, 1, 0) = 62
             told(5) = 60
+            hills 'folk 0 0;folk 0 0;beast 0 1 0 1;' = 1
+            span(5, 9, 1, 0, 0, 0) = 0
+            span(5, 9, 1, 0, 1, 0) = 0
+            span(5, 9, 1, 0, 2, 0) = 9
             """);
     }
 
