@@ -493,7 +493,7 @@ public final class FavourBeasts {
         needWithin(q, 0, SIXTEEN);
         needWithin(what, 0, 2);
         need(hills.hasFolk(folk));
-        int least = Integer.MAX_VALUE;
+        int least = MOST_FOLK * MOST_GRASS;
         int most = 0;
         int bare = 0;
         for (int i = 0; i < many; i++) {

@@ -640,7 +640,7 @@ final class Model {
         if (works.isEmpty()) {
             return -1;
         }
-        now = works.pop();
+        now = works.pop().copy(); // an image may hold the same one
         refused = 0;
         return works.size();
     }

@@ -23,6 +23,7 @@ public final class RulesTest {
         names();
         text();
         room();
+        storm();
         wrong.forEach(System.out::println);
         System.out.println(wrong.isEmpty() ? "RulesTest: all rules are kept" : "RulesTest: rules are broken");
         if (!wrong.isEmpty()) {
@@ -100,6 +101,36 @@ public final class RulesTest {
             boolean made = code.matches(".*\\bnew\\b.*");
             boolean once = code.matches("        (final .*|\\w+ = new .*)") || code.contains("throw new ");
             check(!made || once, "made in line " + (i + 1) + ", not once: " + code);
+        }
+    }
+
+    /** Whatever the arguments, a call answers or throws what its face tells, and status counts what it threw. */
+    private static void storm() {
+        int[] edges = {Integer.MIN_VALUE, -99, -1, 0, 1, 2, 3, 5, 6, 11, 12, 16, 20, 99, 400, 600, Integer.MAX_VALUE};
+        java.util.Random random = new java.util.Random(5);
+        Method[] methods = Arrays.stream(FavourBeasts.class.getDeclaredMethods())
+            .filter(m -> Modifier.isPublic(m.getModifiers())).sorted(java.util.Comparator.comparing(Method::getName))
+            .toArray(Method[]::new);
+        for (int turn = 0; turn < 60; turn++) {
+            FavourBeasts x = new FavourBeasts();
+            if (turn % 3 > 0) {
+                Calls.feedText(x, "folk 9 1;folk 0 0;beast 0 1 0 9;beast 1 0 3 8;fair 0 1 2;");
+                x.hills(57);
+            }
+            int[] thrown = new int[2];
+            for (int call = 0; call < 500; call++) {
+                Method m = methods[random.nextInt(methods.length)];
+                int[] arguments = random.ints(m.getParameterCount(), 0, edges.length).map(i -> edges[i]).toArray();
+                String answer = Calls.answer(x, m.getName(), arguments);
+                boolean missing = answer.equals("throws.NoSuchElementException");
+                boolean refused = answer.equals("throws.IllegalArgumentException");
+                thrown[0] += missing ? 1 : 0;
+                thrown[1] += refused ? 1 : 0;
+                boolean may = !answer.startsWith("throws.") || Arrays.stream(m.getExceptionTypes())
+                    .anyMatch(e -> answer.equals("throws." + e.getSimpleName()));
+                check(may, m.getName() + Arrays.toString(arguments) + " " + answer);
+            }
+            check(x.status(0) == thrown[0] && x.status(1) == thrown[1], "status counts what was thrown");
         }
     }
 
