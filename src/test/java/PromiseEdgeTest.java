@@ -197,8 +197,18 @@ public final class PromiseEdgeTest {
             told(8) = 0
             told(11) = 0
             told(4) = 3
+            told(10) = 0
             {twelve}
+            hills 'folk 5 0;' = 0 // nothing is left of those who were told ahead
+            told(5) = 5
+            told(1) = 0
+            told(4) = 0
+            told(6) = 0
+            overrun() = 0
+            work 'day;' = 1
+            told(5) = 5
             hills '' = 0
+            told(5) = 0
             """);
         edge(3, "or the FAULT less 10 (all stays).", """
             {two}
@@ -517,6 +527,15 @@ public final class PromiseEdgeTest {
             beast(0, 4) = 0
             beast(0, 6) = 9 // LAW and BOOK are no WORK
             told(9) = 1
+            hills 'folk 9 9;folk 0 0;beast 0 1 0 9;beast 1 0 0 1;' = 2
+            work 'day;day;day;' = 3
+            work 'ask 0;do 0;do 1;day;' = 4
+            told(8) = 2
+            beast(0, 5) = 1
+            undo() = 1
+            told(8) = 1
+            told(3) = 3
+            beast(0, 5) = 3
             """);
     }
 
@@ -785,6 +804,9 @@ public final class PromiseEdgeTest {
             law '20' = 1
             herd(0, 0) = 42 // 4 of them: 12, 11, 10, 9
             herd(0, 1) = 3840
+            hills 'folk 1 0;folk 0 0;beast 0 1 0 8;beast 0 1 0 9;' = 2
+            herd(0, 0) = 9 // heavier by 1
+            herd(0, 1) = 2
             hills 'folk 0 0;folk 1 0;beast 0 1 0 30;' = 1
             herd(0, 0) = 0
             herd(0, 1) = 0
@@ -805,7 +827,12 @@ public final class PromiseEdgeTest {
             paid(0, 1) = 6
             paid(1, 0) = 1
             paid(1, 1) = 4
-            """ + whatOutside("paid(2, N)", 1) + outside("paid(N, 0)", 0, 2, "NSEE") + outside("paid(N, 2)", 0, 2, "NSEE"));
+            hills 'folk 0 0;folk 0 0;beast 0 1 0 1;beast 0 1 0 2;beast 0 1 0 3;beast 0 1 0 3;beast 0 1 0 1;' = 5
+            paid(2, 0) = 3 // 0 and 1, 1 and 4, 3
+            paid(2, 1) = 8 // the fewest, though of more bits
+            paid(4, 0) = 1
+            paid(4, 1) = 1
+            """ + whatOutside("paid(2, N)", 1) + outside("paid(N, 0)", 0, 4, "NSEE") + outside("paid(N, 2)", 0, 4, "NSEE"));
         StringBuilder ones = new StringBuilder("hills 'folk 0 0;folk 0 0;beast 0 1 0 5;");
         ones.append("beast 0 1 0 1;".repeat(11)).append("' = 12\n");
         edge(19, "PAID: 0 how many sets, 1 the first (bits; NONE).", ones + "paid(0, 0) = 462 // 5 of 11\npaid(0, 1) = 62\n");
@@ -860,6 +887,15 @@ public final class PromiseEdgeTest {
             law 'kind * 3 + weight / 11' = 1
             look(0, 0) = 1
             look(0, 1) = 11
+            hills 'folk 99 9;folk 0 0;' = 0
+            law '0' = 1
+            look(0, 0) = 1 // whatever there is: 99, too, and none
+            look(0, 1) = 180
+            look(1, 0) = 1
+            look(1, 1) = 180
+            law '9 + kind / 3' = 1
+            look(0, 0) = 1
+            look(0, 1) = 90
             """ + whatOutside("look(1, N)", 1) + outside("look(N, 0)", 0, 1, "NSEE") + outside("look(N, 2)", 0, 1, "NSEE"));
     }
 
@@ -881,6 +917,9 @@ public final class PromiseEdgeTest {
             price(0, 5) = 9
             price(5, 0) = 1
             price(1, 2) = -1
+            hills 'fair 4 5 2;fair 3 4 2;fair 2 3 2;fair 1 2 2;fair 0 1 2;' = 0
+            price(0, 5) = 32
+            price(5, 0) = -1
             """ + whatOutside("price(N, 0)", 5) + whatOutside("price(0, N)", 5) + "price(6, 6) = IAE\nstatus(1) = 9\n");
         edge(36, "FOLK (bits) to whom one comes by a WAY from FOLK (themselves, too).", """
             hills 'folk 0 0;' = 0
@@ -992,12 +1031,12 @@ public final class PromiseEdgeTest {
             hills 'folk 9 9;folk 9 9;beast 0 1 0 1;beast 0 1 0 30;beast 0 1 0 30;' = 3
             oldest(0) = 0
             oldest(1) = 0 // an age of 0 is no NONE
-            work 'day;ask 0;do 0;' = 3
+            work 'day;day;ask 0;do 0;day;' = 5
             oldest(0) = 1
-            oldest(1) = 1
+            oldest(1) = 3
             work 'ask 1;ask 2;' = 2
             oldest(0) = 0
-            oldest(1) = 0
+            oldest(1) = 1
             work 'ask 0;' = 1
             oldest(0) = -1
             oldest(1) = -1
@@ -1097,6 +1136,9 @@ public final class PromiseEdgeTest {
             driven() = 0
             work 'do 1;' = 1
             driven() = 0
+            {twelve}
+            work 'drive 0 1;drive 11 0;' = 2
+            driven() = 2049
             """);
         edge(33, "WEIGHTS together of BEASTS that are there of which FOLK are A (what 0), B (1).", """
             {twelve}
@@ -1143,6 +1185,13 @@ public final class PromiseEdgeTest {
             decade(-1, 1, 0, 0) = 0
             told(8) = 1
             told(3) = 2
+            hills 'folk 7 0;folk 0 0;beast 0 1 0 30;beast 0 1 0 1;beast 1 0 0 1;' = 3
+            decade(-1, 1, 0, 0) = 2 // 15929 of 3 is 2: asked back; 30 eats 4, 1 eats 1
+            law '7' = 1
+            decade(-1, 1, 0, 0) = 0
+            decade(-1, 1, 0, 1) = 1
+            decade(-1, 1, 0, 2) = 1
+            decade(-1, 1, 0, 3) = 30
             """);
     }
 
@@ -1170,6 +1219,13 @@ public final class PromiseEdgeTest {
             span(0, 1, 1, 0, 2, 2) = 1
             span(0, 1, 1, 0, 2, 0) = 0
             told(5) = 40
+            hills 'folk 0 0;folk 0 0;beast 0 1 0 9;' = 1
+            span(3, 20, 96, 16, 0, 0) = 0
+            span(3, 20, 96, 16, 1, 0) = 0
+            hills 'folk 99 9;folk 99 9;folk 99 9;folk 99 9;folk 99 9;folk 99 9;' = 0
+            span(3, 20, 96, 16, 0, 5) = 594
+            span(3, 20, 96, 16, 1, 5) = 594
+            span(3, 20, 96, 16, 2, 5) = 0
             """);
         edge(38, "Of so many SEEDS (1 to 20; seed, seed and 1, ..)", "{two}\n" + outside("span(0, N, 1, 0, 0, 0)", 1, 20, "IAE")
             + outside("span(0, 1, N, 0, 0, 0)", 1, 96, "IAE") + whatOutside("span(0, 1, 1, N, 0, 0)", 16)
@@ -1205,6 +1261,7 @@ public final class PromiseEdgeTest {
             undo() = 1
             undo() = 0
             work 'hay 0 60;' = 1
+            work 'hay 1 60;' = 1
             restore() = 0
             told(3) = 1
             told(4) = 1
@@ -1222,6 +1279,36 @@ public final class PromiseEdgeTest {
             told(8) = 0
             told(11) = 0
             """);
+        edge(39, "An IMAGE of all that WORK changes,", """
+            hills 'folk 9 9;folk 0 0;folk 0 0;folk 0 0;folk 0 0;folk 0 0;beast 0 1 0 9;beast 5 4 0 1;' = 2
+            work 'day;day;day;' = 3
+            image() = 1
+            work 'day;' = 1
+            beast(0, 5) = 4
+            undo() = 1
+            beast(0, 5) = 3
+            told(8) = 1
+            work 'ask 0;do 0;' = 2
+            beast(0, 5) = 0
+            restore() = 0
+            beast(0, 5) = 3
+            beast(0, 6) = 1
+            told(8) = 1
+            told(3) = 3
+            cool(5, 5) = 0
+            cool(0, 0) = 0
+            told(11) = 0
+            """);
+        // All sixteen WORKS come back, whatever was undone and done since.
+        StringBuilder works = new StringBuilder("hills 'folk 0 0;' = 0\n" + "work 'day;' = 1\n".repeat(16) + "image() = 1\n");
+        for (int left = 15; left >= 0; left--) {
+            works.append("undo() = ").append(left).append('\n');
+        }
+        works.append("work 'hay 0 1;' = 1\n".repeat(16)).append("restore() = 0\ncount(2) = 16\ntold(3) = 16\n");
+        for (int left = 15; left >= 0; left--) {
+            works.append("undo() = ").append(left).append("\ntold(3) = ").append(left).append("\ntold(5) = 0\n");
+        }
+        edge(39, "and of WORKS that can be undone:", works.toString());
         // An image that finds no room changes none of the three.
         edge(39, "-1: there are 3.", """
             hills 'folk 0 0;' = 0
