@@ -1,5 +1,6 @@
 import java.util.ArrayList;
 import java.util.Arrays;
+import java.util.Collections;
 import java.util.List;
 import java.util.Random;
 
@@ -134,27 +135,30 @@ public final class ModelTest {
     }
 
     private String hillsText() {
-        StringBuilder b = new StringBuilder();
+        List<String> clauses = new ArrayList<>();
         int folk = chance(20) ? within(0, 7) : within(2, 6);
         int beasts = folk < 2 ? 0 : chance(20) ? within(0, 13) : within(1, 12);
         int fairs = chance(20) ? within(0, 11) : within(0, 9);
         int poor = within(0, 3);
         for (int i = 0; i < folk; i++) {
-            b.append(blank()).append("folk").append(numberText(0, poor == 0 ? 12 : 99));
-            b.append(numberText(0, poor < 2 ? 2 : 9)).append(blank()).append(';');
+            clauses.add(blank() + "folk" + numberText(0, poor == 0 ? 12 : 99) + numberText(0, poor < 2 ? 2 : 9) + blank() + ';');
         }
         for (int i = 0; i < beasts; i++) {
             int a = random.nextInt(folk);
             int other = chance(300) ? a : (a + within(1, folk - 1)) % folk;
-            b.append(blank()).append("beast ").append(number(a)).append(' ').append(number(other));
-            b.append(numberText(0, 5)).append(numberText(1, poor == 0 ? 6 : 30)).append(blank()).append(';');
+            clauses.add(blank() + "beast " + number(a) + ' ' + number(other) + numberText(0, 5)
+                + numberText(1, poor == 0 ? 6 : 30) + blank() + ';');
         }
         for (int i = 0; i < fairs; i++) {
             int k = random.nextInt(6);
             int l = chance(200) ? k : (k + within(1, 5)) % 6;
-            b.append("fair ").append(k).append(' ').append(l).append(numberText(1, 9)).append(';').append(blank());
+            clauses.add("fair " + k + ' ' + l + numberText(1, 9) + ';' + blank());
         }
-        return spoiled(b.toString());
+        // Beasts may come ahead of folk, whom they must not name then.
+        for (int i = chance(4) ? within(1, 3) : 0; i > 0 && clauses.size() > 1; i--) {
+            Collections.swap(clauses, random.nextInt(clauses.size()), random.nextInt(clauses.size()));
+        }
+        return spoiled(String.join("", clauses));
     }
 
     private String sum(int depth) {
